@@ -137,6 +137,8 @@ public final class PromisesTest {
         due("one", fault("w10;"), 1);
         due("no blanks but between numbers", fault("p0 0 0 0;w0;l1;g0;"), 4);
         due("blanks all over", fault("  p  60  9  9  9  ;  g 9 ; l 9 ;w  10;  "), 4);
+        due("200 blanks", fault(" ".repeat(200)), 0);
+        due("200 letters, a number last", fault(" ".repeat(198) + "w7"), -210);
         due("six pews", fault("p0 0 0 0;p0 0 0 0;p0 0 0 0;p0 0 0 0;p0 0 0 0;p0 0 0 0;"), 6);
     }
 
@@ -179,8 +181,8 @@ public final class PromisesTest {
         due("undoable behind a fault", x.now(6), 5);
         due("HEARD behind a fault", x.count(3), 1);
         x.clear();
-        type(x, "p12 1 2 3;w7;");
-        due("church()", x.church(), 2);
+        type(x, "p12 1 2 3;w7;l4;g2;");
+        due("church()", x.church(), 4);
         int[] nows = {0, 0, 0, NONE, 7, 0, 0};
         for (int i = 0; i < nows.length; i++) {
             due("now(" + i + ")", x.now(i), nows[i]);
@@ -521,6 +523,10 @@ public final class PromisesTest {
         due("playAhead(1, 0)", x.playAhead(1, 0), 15);
         due("playAhead(1, 1)", x.playAhead(1, 1), 0);
         due("now(2)", x.now(2), 0);
+        // 9 times (10 less 20) by 14, and 9: the farthest ahead is the best.
+        BehindOrgan f = church("p60 9 0 9;");
+        due("playAhead(1, 0)", f.playAhead(1, 0), 20);
+        due("playAhead(1, 1)", f.playAhead(1, 1), 3);
         // All that he plays is 2 at least: he can't be early enough, the least is told.
         BehindOrgan y = church("p0 0 0 2;");
         due("playAhead(3, 0)", y.playAhead(3, 0), 0);
@@ -581,9 +587,11 @@ public final class PromisesTest {
         for (int i = 0; i < most.length; i++) {
             due("knowers(30, " + most[i] + ")", y.knowers(30, most[i]), bits[i]);
         }
+        // All 9, 13, 17; without habit of 0 and 1: 0, 0, 7; of 2: 9, 13, 9; of 0 or of 1: 17, 9 apart.
         // One of a high bit goes ahead of two of low ones.
-        BehindOrgan z = church("p0 0 0 3;p0 0 0 3;p0 0 0 9;");
-        due("knowers(1, 3)", z.knowers(1, 3), 4);
+        BehindOrgan z = church("p60 0 0 3;p0 9 0 9;p0 0 9 5;");
+        due("knowers(3, 7)", z.knowers(3, 7), 4);
+        due("knowers(1, 0) are all", church("p0 0 0 3;p0 0 0 9;").knowers(1, 0), 3);
         due("knowers(0, 0)", x.knowers(0, 0), BAD);
         due("knowers(31, 0)", x.knowers(31, 0), BAD);
         due("knowers(1, 100)", x.knowers(1, 100), BAD);
@@ -618,6 +626,18 @@ public final class PromisesTest {
         BehindOrgan k = church("p0 0 0 4;p0 0 0 2;p0 0 0 9;w10;");
         k.knows(2, 1);
         due("pulls(1) by knowing", k.pulls(1), 0);
+        // From NOW on: 10, 4, 0 late. All: 15, 6, 0 is 7; without the first: 6, 0 is 3.
+        BehindOrgan l = church("p60 0 0 5;p30 0 0 2;p0 0 0 0;");
+        lines(l, 2);
+        l.waits(10);
+        due("pulls(1) behind two lines", l.pulls(1), 0);
+        // With the first goes its choir, or its knowing: 0, 4, 3 is 2; 4, 3 is 3; 0, 3 is 1; 0, 4 is 2.
+        BehindOrgan g = church("p0 0 0 9;p0 0 0 4;p0 0 0 3;w10;");
+        g.choir(0);
+        due("pulls(1) by a choir in the first", g.pulls(1), 1);
+        g.choir(NONE);
+        g.knows(0, 1);
+        due("pulls(1) by a first that knows it", g.pulls(1), 1);
         due("pulls(1) of nobody", new BehindOrgan().pulls(1), NONE);
         due("pulls(0)", x.pulls(0), BAD);
         due("pulls(31)", x.pulls(31), BAD);
