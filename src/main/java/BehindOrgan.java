@@ -28,6 +28,8 @@ public final class BehindOrgan {
     private static final int MOST_APART = 99;
     private static final int TENTHS = 10;
     private static final int IMAGES = 2;
+    /** More than any LATE, and than any two are apart. */
+    private static final int BEYOND_ALL = 1000000;
 
     private final Reader reader = new Reader();
     private final Church told = new Church();
@@ -227,7 +229,7 @@ public final class BehindOrgan {
             return BAD;
         }
         int best = 0;
-        int least = Integer.MAX_VALUE;
+        int least = BEYOND_ALL;
         for (int a = 0; a <= MOST_AHEAD; a++) {
             trial.copyFrom(current);
             trial.playsAhead = a;
@@ -246,7 +248,7 @@ public final class BehindOrgan {
             return BAD;
         }
         int best = NONE;
-        int least = Integer.MAX_VALUE;
+        int least = BEYOND_ALL;
         for (int k = 0; k < told.pews; k++) {
             int apart = apartBySeat(n, k);
             if (apart < least) {
