@@ -21,7 +21,8 @@ public final class FaceTest {
         "int keep(int)", "int back(int)", "int count(int)", "long trace()"};
     private static final String[] FIELDS = {"BAD -1000001", "FULL -1000003", "NONE -1000009", "STATE -1000002"};
     private static final String RULED_OUT = "\\b(throw|throws|try|catch|synchronized|assert|import|package|new int\\[\\]\\[\\]"
-        + "|\\w+Exact|hashCode|toString|System|Object|Random|Thread|float|double)\\b|->|::";
+        + "|\\w+Exact|hashCode|toString|System|Object|Random|Thread|float|double)\\b|->|::"
+        + "|\\b(Integer|Long|Math)\\.[A-Z]\\w*";
 
     private static int wrong = 0;
 
@@ -41,6 +42,10 @@ public final class FaceTest {
         methods(face);
         fields(face);
         nested(face);
+        sizes(face);
+        for (Class<?> c : face.getDeclaredClasses()) {
+            sizes(c);
+        }
         file();
         System.out.println(wrong == 0 ? "the face is as due" : wrong + " things are not as due");
         if (wrong != 0) {
@@ -91,6 +96,17 @@ public final class FaceTest {
             due(c + " is not open", Modifier.isPublic(is) || Modifier.isProtected(is), false);
             due(c + " has no class of its own", c.getDeclaredClasses().length, 0);
         }
+    }
+
+    private static void sizes(Class<?> c) {
+        for (Method m : c.getDeclaredMethods()) {
+            due(m + " has at most seven parameters", m.getParameterCount() <= 7, true);
+        }
+        int fields = 0;
+        for (Field f : c.getDeclaredFields()) {
+            fields += Modifier.isStatic(f.getModifiers()) ? 0 : 1;
+        }
+        due(c + " has at most twenty fields", fields <= 20, true);
     }
 
     private static void file() throws Exception {
